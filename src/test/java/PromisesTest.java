@@ -652,6 +652,9 @@ public final class PromisesTest {
         is("DAY", p.count(1), 8);
         is("thirty", p.loose(30), 9);
         is("DAY, then", p.count(1), 38);
+        p.day(9969);
+        is("to 9999", p.loose(30), 9);
+        is("one more", p.loose(1), STATE);
     }
 
     private static void day() {
@@ -837,6 +840,9 @@ public final class PromisesTest {
         p.set(5, 0, 8);
         is("all of 8 .. 15 WET there now know 2", p.springFor(1, 1), 2);
         is("SPRING stays", p.count(2), 2);
+        p.set(0, 2, 4095);
+        is("all are known by any: the least", p.springFor(1, 0), 0);
+        is("all", p.springFor(1, 1), 12);
     }
 
     private static void walk() {
@@ -903,6 +909,10 @@ public final class PromisesTest {
         is("with the last", p.council(2048 | 7), 1 | 1 << 4 | 1 << 6);
         is("one of several", p.council(2), 2);
         is("not by all", p.council(8), NONE);
+        for (int i = 0; i < 8; i++) {
+            p.set(i, 2, 1 << i);
+        }
+        is("all of them", p.council(255), 255);
     }
 
     private static void odds() {
