@@ -1,43 +1,5 @@
 /** Each promise by itself: ordinary inputs, the edges that the document names, wrong inputs. */
-public final class PromisesTest {
-    private static final int BEYOND = -1000000001;
-    private static final int NONE = -1000000002;
-    private static final int STATE = -1000000003;
-    private static final int FULL = -1000000004;
-    private static final int KIND = -1000000005;
-    private static final int PARTED = -1000000006;
-    private static final int MIN = Integer.MIN_VALUE;
-    private static final int MAX = Integer.MAX_VALUE;
-
-    private static int wrong;
-    private static int promise;
-
-    private static void is(String what, int got, int want) {
-        if (got != want) {
-            wrong++;
-            System.out.println("promise " + promise + ": " + what + ": " + got + ", due is " + want);
-        }
-    }
-
-    /** Brings a text to the tape and makes it the TEXT of a USE. */
-    private static int text(StiltParish p, int use, String signs) {
-        feed(p, signs);
-        return p.text(use);
-    }
-
-    private static void feed(StiltParish p, String signs) {
-        for (int i = 0; i < signs.length(); i++) {
-            p.feed(signs.charAt(i), 1);
-        }
-    }
-
-    private static void fill(StiltParish p, int sheet, int bits, int... numbers) {
-        p.sheet(sheet, bits, numbers.length);
-        for (int i = 0; i < numbers.length; i++) {
-            p.put(sheet, i, numbers[i]);
-        }
-    }
-
+public final class PromisesTest extends Checks {
     public static void main(String[] args) {
         newObject();
         one();
@@ -88,10 +50,7 @@ public final class PromisesTest {
         check();
         count();
         told();
-        System.out.println(wrong == 0 ? "all promises hold" : wrong + " answers are not as due");
-        if (wrong != 0) {
-            System.exit(1);
-        }
+        end("all promises hold");
     }
 
     private static void newObject() {
