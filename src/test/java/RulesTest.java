@@ -24,6 +24,7 @@ public final class RulesTest {
         face();
         classes();
         words();
+        methods();
         System.out.println(wrong == 0 ? "the rules are kept" : wrong + " rules are broken");
         if (wrong != 0) {
             System.exit(1);
@@ -96,5 +97,24 @@ public final class RulesTest {
             rule(!Pattern.compile("\\bnew\\b").matcher(made.group()).find(), "an act makes an object: " + made.group());
         }
         rule(acts == 41, acts + " acts were found in the source");
+    }
+
+    /** Rule 11: no method has more than seven parameters or some sixty lines. */
+    private static void methods() throws Exception {
+        List<Class<?>> all = new ArrayList<>(List.of(StiltParish.class.getDeclaredClasses()));
+        all.add(StiltParish.class);
+        for (Class<?> owner : all) {
+            for (Method method : owner.getDeclaredMethods()) {
+                rule(method.getParameterCount() <= 7, method + " has more than seven parameters");
+            }
+        }
+        String source = Files.readString(Path.of("src/main/java/StiltParish.java"));
+        Matcher body = Pattern.compile("(?m)^( {4}| {8})([a-zA-Z][^\\n;={]*\\)) \\{\\n(?s:.*?)\\n\\1\\}$").matcher(source);
+        int found = 0;
+        while (body.find()) {
+            found++;
+            rule(body.group().lines().count() <= 60, body.group(2) + " is longer than sixty lines");
+        }
+        rule(found >= 41, "only " + found + " methods were found in the source");
     }
 }
